@@ -1,0 +1,33 @@
+/** Counts answers that are not the ones that are due. */
+final class Check {
+    private int wrong = 0;
+    private int asked = 0;
+    private String about = "";
+
+    void promise(String words) {
+        about = words;
+    }
+
+    void due(String call, long got, long want) {
+        asked++;
+        if (got != want) {
+            wrong++;
+            System.out.println(about + ": " + call + " answered " + got + ", due is " + want);
+        }
+    }
+
+    void due(String call, boolean got, boolean want) {
+        due(call, got ? 1 : 0, want ? 1 : 0);
+    }
+
+    boolean anyWrong() {
+        return wrong > 0;
+    }
+
+    void end() {
+        System.out.println(asked + " answers looked at, " + wrong + " not as due");
+        if (wrong > 0) {
+            System.exit(1);
+        }
+    }
+}
