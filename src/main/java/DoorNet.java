@@ -56,14 +56,11 @@ public final class DoorNet {
     }
 
     public int box(int hold) {
-        if (net.boxes >= MOST_BOXES || !within(hold, 0, MOST_HOLD)) {
-            return NONE;
-        }
-        return net.makeBox(hold);
+        return within(hold, 0, MOST_HOLD) ? net.makeBox(hold) : NONE;
     }
 
     public int wire(int from, int to, int length, int speed) {
-        if (net.wires >= MOST_WIRES || !net.hasPair(from, to) || streams.told > 0 || post.told > 0) {
+        if (!net.hasPair(from, to) || streams.told > 0 || post.told > 0) {
             return NONE;
         }
         if (!within(length, 0, MOST_LENGTH) || !within(speed, 1, MOST_SPEED)) {
@@ -77,7 +74,6 @@ public final class DoorNet {
             return false;
         }
         net.ticks = h;
-        post.stale = true;
         return true;
     }
 

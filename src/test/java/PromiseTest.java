@@ -38,7 +38,9 @@ public final class PromiseTest {
         test.plain();
         test.plainOrder();
         test.plainAsToldNow();
+        test.plainOfManyWires();
         test.plainTooLate();
+        test.plainJustInTime();
         test.most();
         test.count();
         test.anyNumbers();
@@ -256,6 +258,8 @@ public final class PromiseTest {
         }
         check.due("a ninth stream", x.stream(0, 1, 1, 12, 200), -1);
         check.due("a ninth without a choice", x.stream(1, 0, 1, 12, 200), -1);
+        check.due("place(8, 0)", x.place(8, 0), -1);
+        check.due("strike(8)", x.strike(8), false);
         check.due("count(4)", x.count(4), 8);
         DoorNet y = oneWire(0, 1);
         y.cycle(120);
@@ -344,6 +348,10 @@ public final class PromiseTest {
         check.due("place(0, 1) stays", x.place(0, 1), 0);
         check.due("place(1, 1) stays", x.place(1, 1), 4);
         check.due("place(3, 1)", x.place(3, 1), -1);
+        check.due("doors stay", x.waits(0, 8, 1), 0);
+        check.due("doors stay", x.waits(0, 6, 1), 2);
+        x.send(0, 0, 1, 2);
+        check.due("doors stay", x.plain(0, 20), 8);
         DoorNet y = oneWire(0, 3);
         y.stream(0, 1, 5, 12, 50);
         check.due("plan() of one that meets itself", y.plan(), 0);
@@ -368,6 +376,25 @@ public final class PromiseTest {
         check.due("plan()", x.plan(), 1);
         check.due("place(0, 21)", x.place(0, 21), 2);
         check.due("place(1, 1)", x.place(1, 1), 8);
+        // Held 2 ticks and 2 for drift in between: the second wire is taken from 6 on, by rests by 8.
+        DoorNet z = new DoorNet();
+        z.box(0);
+        z.box(2);
+        z.box(0);
+        z.wire(0, 1, 0, 1);
+        z.wire(1, 2, 0, 1);
+        z.cycle(48);
+        z.drift(1);
+        z.stream(0, 2, 2, 8, 50);
+        z.stream(1, 2, 2, 8, 50);
+        z.stream(0, 2, 2, 8, 50);
+        check.due("plan()", z.plan(), 1);
+        check.due("place(0, 21)", z.place(0, 21), 6);
+        check.due("place(1, 1)", z.place(1, 1), 0);
+        check.due("place(2, 1)", z.place(2, 1), 4);
+        check.due("waits(1, 6, 1)", z.waits(1, 6, 1), 6);
+        check.due("door(1, 4)", z.door(1, 4), -1);
+        check.due("tries()", z.tries(), 1 + 1 + 5);
         // Three that go into two halves of a wire only one way round.
         DoorNet y = oneWire(0, 1);
         y.stream(0, 1, 3, 12, 50);
@@ -524,6 +551,21 @@ public final class PromiseTest {
         for (int s = 0; s < one.length; s++) {
             check.due("place(" + s + ", 1)", z.place(s, 1), one[s]);
         }
+        // All four of wire 0 would have to go to wire 1 for one that can have wire 0 alone.
+        DoorNet v = new DoorNet();
+        v.box(0);
+        v.box(0);
+        v.wire(0, 1, 0, 1);
+        v.wire(0, 1, 1, 1);
+        for (int s = 0; s < 4; s++) {
+            v.stream(0, 1, 1, 4, 50);
+        }
+        v.plan();
+        v.stream(0, 1, 2, 2, 2);
+        check.due("stir() that would need four", v.stir(), -1);
+        check.due("plan()", v.plan(), 1);
+        check.due("place(3, 10)", v.place(3, 10), 1);
+        check.due("place(4, 10)", v.place(4, 10), 0);
         // Four of two ticks take eight; one of each second tick would need six more.
         DoorNet w = oneWire(0, 1);
         for (int s = 0; s < 4; s++) {
@@ -603,6 +645,11 @@ public final class PromiseTest {
         for (int[] d : wrong) {
             check.due("a wrong door", x.door(d[0], d[1]), -2);
         }
+        DoorNet z = chain(3, 0, 0, 1);
+        z.stream(1, 2, 1, 12, 50);
+        z.plan();
+        check.due("door(0, 0) of a wire that no stream has", z.door(0, 0), -1);
+        check.due("door(1, 0)", z.door(1, 0), 0);
         // Ahead of its first letter: the second wire's start is 14, by rests 2.
         DoorNet y = chain(3, 5, 8, 1);
         y.stream(0, 2, 1, 12, 50);
@@ -668,6 +715,11 @@ public final class PromiseTest {
         check.due("worst(0, 1)", x.worst(0, 1), 5);
         check.due("worst(0, 2)", x.worst(0, 2), 11);
         check.due("worst(0, 3)", x.worst(0, 3), -1);
+        DoorNet y = oneWire(0, 1);
+        y.stream(0, 1, 6, 12, 50);
+        y.plan();
+        check.due("worst(0, 1) is that of tick 0", y.worst(0, 1), 6);
+        check.due("worst(0, 6) is that of tick 7", y.worst(0, 6), 11);
         int[][] wrong = {{1, 1}, {-1, 1}, {0, 0}, {0, 9}, {HIGH, 1}, {LOW, 1}, {0, HIGH}, {0, LOW}};
         for (int[] w : wrong) {
             check.due("a wrong worst", x.worst(w[0], w[1]), -2);
@@ -868,8 +920,40 @@ public final class PromiseTest {
         x.stir();
         check.due("and stirred", x.plain(0, 20), 2);
         x.strike(0);
+        check.due("and struck", x.plain(0, 20), 0);
         x.plan();
         check.due("and planned", x.plain(0, 20), 2);
+        DoorNet y = oneWire(0, 1);
+        y.send(0, 0, 1, 1);
+        check.due("plain(0, 1)", y.plain(0, 1), 1);
+        y.stream(0, 1, 2, 2, 50);
+        y.add();
+        check.due("plain(0, 1) of a wire that is full now", y.plain(0, 1), -3);
+        check.due("count(7)", y.count(7), 0);
+        check.due("most(0)", y.most(0), 1);
+    }
+
+    private void plainOfManyWires() {
+        check.promise("promise 21, many letters on twelve wires");
+        DoorNet x = new DoorNet();
+        for (int b = 0; b < 5; b++) {
+            x.box(0);
+        }
+        for (int w = 0; w < 12; w++) {
+            x.wire(w % 4, w % 4 + 1, 9 - w / 4 * 4, 1);
+        }
+        for (int l = 0; l < 60; l++) {
+            x.send(0, 0, 4, 1);
+        }
+        // They go by wires 8 .. 11, of length 1, one behind the other.
+        check.due("plain(59, 13)", x.plain(59, 13), 11);
+        check.due("plain(59, 20)", x.plain(59, 20), 59);
+        check.due("plain(59, 23)", x.plain(59, 23), 65);
+        check.due("plain(59, 1)", x.plain(59, 1), 67);
+        check.due("count(7)", x.count(7), 60);
+        check.due("most(8)", x.most(8), 59);
+        check.due("most(11)", x.most(11), 0);
+        check.due("plain(60, 0)", x.plain(60, 0), -1);
     }
 
     private void plainTooLate() {
@@ -911,6 +995,52 @@ public final class PromiseTest {
         check.due("count(7)", y.count(7), 16);
         check.due("most(0)", y.most(0), 18);
         check.due("most(1)", y.most(1), 0);
+    }
+
+    /** A fifth of the first wire is free, that of one of five streams; drift 1; 17 plain letters. */
+    private static DoorNet fifthFree(int s, int to) {
+        DoorNet x = new DoorNet();
+        for (int b = 0; b < 3; b++) {
+            x.box(0);
+        }
+        x.wire(0, 1, 0, 3);
+        x.wire(1, 2, 0, 1);
+        x.cycle(120);
+        x.drift(1);
+        for (int j = 0; j < 5; j++) {
+            x.stream(0, 1, 8, 120, 50);
+        }
+        x.plan();
+        x.strike(s);
+        for (int l = 0; l < 17; l++) {
+            x.send(999, 0, to, 8);
+        }
+        return x;
+    }
+
+    private void plainJustInTime() {
+        check.promise("promise 21, ticks 2999 and 3000");
+        DoorNet x = fifthFree(4, 1);
+        check.due("plain(16, 20)", x.plain(16, 20), 1056 + 16 * 120);
+        check.due("plain(16, 1) would be 3000", x.plain(16, 1), -3);
+        check.due("count(7)", x.count(7), 16);
+        x.clock(0, -1);
+        check.due("plain(16, 1)", x.plain(16, 1), 2999);
+        check.due("count(7)", x.count(7), 17);
+        DoorNet y = fifthFree(0, 1);
+        check.due("plain(15, 20)", y.plain(15, 20), 1080 + 15 * 120);
+        check.due("plain(16, 20) would be 3000", y.plain(16, 20), -3);
+        check.due("most(0)", y.most(0), 17);
+        y.clock(0, -1);
+        check.due("plain(16, 20)", y.plain(16, 20), 2999);
+        check.due("plain(16, 1)", y.plain(16, 1), -3);
+        DoorNet z = fifthFree(4, 2);
+        check.due("plain(16, 31) would be 3000", z.plain(16, 31), -3);
+        z.clock(0, -1);
+        check.due("plain(16, 31)", z.plain(16, 31), 2999);
+        check.due("plain(16, 21)", z.plain(16, 21), 2999);
+        check.due("plain(16, 1)", z.plain(16, 1), -3);
+        check.due("count(7)", z.count(7), 16);
     }
 
     private void most() {
