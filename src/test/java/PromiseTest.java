@@ -47,27 +47,6 @@ public final class PromiseTest {
         test.check.end();
     }
 
-    /** Boxes 0 and 1 without a hold, and one wire from 0 to 1. */
-    private static DoorNet oneWire(int length, int speed) {
-        DoorNet x = new DoorNet();
-        x.box(0);
-        x.box(0);
-        x.wire(0, 1, length, speed);
-        return x;
-    }
-
-    /** Boxes in a row, each with a hold, and a wire from each to the next. */
-    private static DoorNet chain(int boxes, int hold, int length, int speed) {
-        DoorNet x = new DoorNet();
-        for (int b = 0; b < boxes; b++) {
-            x.box(hold);
-        }
-        for (int b = 0; b + 1 < boxes; b++) {
-            x.wire(b, b + 1, length, speed);
-        }
-        return x;
-    }
-
     private void newObject() {
         check.promise("promise 1, a new object");
         DoorNet x = new DoorNet();
@@ -98,7 +77,7 @@ public final class PromiseTest {
         }
         check.due("a seventh box", x.box(0), -1);
         check.due("count(0)", x.count(0), 6);
-        DoorNet y = oneWire(0, 1);
+        DoorNet y = Nets.oneWire(0, 1);
         y.stream(0, 1, 1, 12, 50);
         y.send(0, 0, 1, 1);
         check.due("box(3) beside streams and letters", y.box(3), 2);
@@ -122,17 +101,17 @@ public final class PromiseTest {
         }
         check.due("a thirteenth wire", x.wire(0, 1, 1, 1), -1);
         check.due("count(1)", x.count(1), 12);
-        DoorNet y = oneWire(0, 1);
+        DoorNet y = Nets.oneWire(0, 1);
         y.stream(0, 1, 1, 12, 50);
         check.due("wire beside a stream", y.wire(0, 1, 0, 1), -1);
-        DoorNet z = oneWire(0, 1);
+        DoorNet z = Nets.oneWire(0, 1);
         z.send(0, 0, 1, 1);
         check.due("wire beside a plain letter", z.wire(0, 1, 0, 1), -1);
     }
 
     private void cycle() {
         check.promise("promise 4, cycle");
-        DoorNet x = oneWire(0, 1);
+        DoorNet x = Nets.oneWire(0, 1);
         for (int h : new int[] {24, 48, 60, 120, 12}) {
             check.due("cycle(" + h + ")", x.cycle(h), true);
             check.due("count(2)", x.count(2), h);
@@ -151,7 +130,7 @@ public final class PromiseTest {
 
     private void drift() {
         check.promise("promise 5, drift");
-        DoorNet x = oneWire(0, 1);
+        DoorNet x = Nets.oneWire(0, 1);
         for (int d = 3; d >= 0; d--) {
             check.due("drift(" + d + ")", x.drift(d), true);
             check.due("count(3)", x.count(3), d);
@@ -167,7 +146,7 @@ public final class PromiseTest {
         check.due("leaves: a refused drift rights no clock", x.leaves(0, 0, 0), 2);
         check.due("drift(2) beside a stream", x.drift(2), false);
         check.due("leaves", x.leaves(0, 0, 0), 2);
-        DoorNet y = oneWire(0, 1);
+        DoorNet y = Nets.oneWire(0, 1);
         y.drift(2);
         y.clock(0, 2);
         check.due("drift(2) again", y.drift(2), true);
@@ -178,7 +157,7 @@ public final class PromiseTest {
 
     private void way() {
         check.promise("promise 6, way");
-        DoorNet x = chain(6, 1, 2, 3);
+        DoorNet x = Nets.chain(6, 1, 2, 3);
         check.due("way over four wires", x.way(0, 4, 1, 0, 3), 3);
         // 4 times (1 * 3 + 2) and three holds
         check.due("its lateness", x.way(0, 4, 1, 0, 4), 23);
@@ -238,7 +217,7 @@ public final class PromiseTest {
 
     private void stream() {
         check.promise("promise 7, stream");
-        DoorNet x = oneWire(3, 2);
+        DoorNet x = Nets.oneWire(3, 2);
         int[][] wrong = {{0, 2, 1, 12, 50}, {-1, 1, 1, 12, 50}, {0, 0, 1, 12, 50}, {0, 1, 0, 12, 50},
             {0, 1, 9, 12, 50}, {0, 1, 1, 1, 50}, {0, 1, 1, 0, 50}, {0, 1, 1, -12, 50}, {0, 1, 1, 5, 50},
             {0, 1, 1, 24, 50}, {0, 1, 1, 12, 0}, {0, 1, 1, 12, 201}, {0, 1, 1, LOW, 50}, {0, 1, 1, HIGH, 50},
@@ -261,7 +240,7 @@ public final class PromiseTest {
         check.due("place(8, 0)", x.place(8, 0), -1);
         check.due("strike(8)", x.strike(8), false);
         check.due("count(4)", x.count(4), 8);
-        DoorNet y = oneWire(0, 1);
+        DoorNet y = Nets.oneWire(0, 1);
         y.cycle(120);
         check.due("period 120 of cycle 120", y.stream(0, 1, 1, 120, 1), 0);
         check.due("period 2", y.stream(0, 1, 1, 2, 1), 1);
@@ -306,7 +285,7 @@ public final class PromiseTest {
 
     private void strike() {
         check.promise("promise 8, strike");
-        DoorNet x = oneWire(0, 1);
+        DoorNet x = Nets.oneWire(0, 1);
         check.due("strike(0) without streams", x.strike(0), false);
         x.stream(0, 1, 3, 12, 50);
         check.due("strike(0) without a place", x.strike(0), false);
@@ -329,7 +308,7 @@ public final class PromiseTest {
 
     private void plan() {
         check.promise("promise 9, plan");
-        DoorNet x = oneWire(0, 1);
+        DoorNet x = Nets.oneWire(0, 1);
         check.due("plan() of none", x.plan(), 1);
         x.stream(0, 1, 4, 12, 50);
         x.stream(0, 1, 2, 6, 50);
@@ -352,11 +331,11 @@ public final class PromiseTest {
         check.due("doors stay", x.waits(0, 6, 1), 2);
         x.send(0, 0, 1, 2);
         check.due("doors stay", x.plain(0, 20), 8);
-        DoorNet y = oneWire(0, 3);
+        DoorNet y = Nets.oneWire(0, 3);
         y.stream(0, 1, 5, 12, 50);
         check.due("plan() of one that meets itself", y.plan(), 0);
         check.due("tries()", y.tries(), 12);
-        DoorNet z = oneWire(0, 3);
+        DoorNet z = Nets.oneWire(0, 3);
         z.stream(0, 1, 4, 12, 50);
         check.due("plan() of one that just fills the wire", z.plan(), 1);
         check.due("worst(0, 1)", z.worst(0, 1), -1);
@@ -396,7 +375,7 @@ public final class PromiseTest {
         check.due("door(1, 4)", z.door(1, 4), -1);
         check.due("tries()", z.tries(), 1 + 1 + 5);
         // Three that go into two halves of a wire only one way round.
-        DoorNet y = oneWire(0, 1);
+        DoorNet y = Nets.oneWire(0, 1);
         y.stream(0, 1, 3, 12, 50);
         y.stream(0, 1, 3, 12, 50);
         y.stream(0, 1, 3, 6, 50);
@@ -410,7 +389,7 @@ public final class PromiseTest {
 
     private void planFull() {
         check.promise("promise 9, full");
-        DoorNet x = oneWire(0, 1);
+        DoorNet x = Nets.oneWire(0, 1);
         x.cycle(120);
         x.stream(0, 1, 1, 120, 50);
         check.due("plan()", x.plan(), 1);
@@ -472,7 +451,7 @@ public final class PromiseTest {
 
     private void add() {
         check.promise("promise 10, add");
-        DoorNet x = oneWire(0, 1);
+        DoorNet x = Nets.oneWire(0, 1);
         check.due("add() of none", x.add(), 1);
         x.stream(0, 1, 2, 12, 50);
         x.stream(0, 1, 3, 12, 50);
@@ -496,7 +475,7 @@ public final class PromiseTest {
 
     private void stir() {
         check.promise("promise 11, stir");
-        DoorNet x = oneWire(0, 1);
+        DoorNet x = Nets.oneWire(0, 1);
         check.due("stir() of none", x.stir(), 0);
         x.stream(0, 1, 3, 12, 50);
         check.due("stir() moves none if it need not", x.stir(), 0);
@@ -519,7 +498,7 @@ public final class PromiseTest {
 
     /** Streams of one tick each side by side, all with a place, and one that needs each second tick. */
     private static DoorNet sideBySide(int many) {
-        DoorNet x = oneWire(0, 1);
+        DoorNet x = Nets.oneWire(0, 1);
         for (int s = 0; s < many; s++) {
             x.stream(0, 1, 1, 12, 50);
         }
@@ -567,7 +546,7 @@ public final class PromiseTest {
         check.due("place(3, 10)", v.place(3, 10), 1);
         check.due("place(4, 10)", v.place(4, 10), 0);
         // Four of two ticks take eight; one of each second tick would need six more.
-        DoorNet w = oneWire(0, 1);
+        DoorNet w = Nets.oneWire(0, 1);
         for (int s = 0; s < 4; s++) {
             w.stream(0, 1, 2, 12, 50);
         }
@@ -581,7 +560,7 @@ public final class PromiseTest {
 
     private void place() {
         check.promise("promise 12, place");
-        DoorNet x = chain(5, 2, 1, 2);
+        DoorNet x = Nets.chain(5, 2, 1, 2);
         x.cycle(24);
         x.drift(1);
         // each wire: 3 * 2 + 1, and 2 + 2 between
@@ -612,7 +591,7 @@ public final class PromiseTest {
 
     private void tries() {
         check.promise("promise 13, tries");
-        DoorNet x = oneWire(0, 1);
+        DoorNet x = Nets.oneWire(0, 1);
         check.due("tries() ahead of any", x.tries(), 0);
         x.stream(0, 1, 4, 12, 50);
         check.due("tries() ahead of any", x.tries(), 0);
@@ -631,7 +610,7 @@ public final class PromiseTest {
 
     private void door() {
         check.promise("promise 14, door");
-        DoorNet x = oneWire(0, 1);
+        DoorNet x = Nets.oneWire(0, 1);
         check.due("door(0, 0) without streams", x.door(0, 0), -1);
         x.stream(0, 1, 2, 6, 50);
         x.stream(0, 1, 3, 12, 50);
@@ -645,13 +624,13 @@ public final class PromiseTest {
         for (int[] d : wrong) {
             check.due("a wrong door", x.door(d[0], d[1]), -2);
         }
-        DoorNet z = chain(3, 0, 0, 1);
+        DoorNet z = Nets.chain(3, 0, 0, 1);
         z.stream(1, 2, 1, 12, 50);
         z.plan();
         check.due("door(0, 0) of a wire that no stream has", z.door(0, 0), -1);
         check.due("door(1, 0)", z.door(1, 0), 0);
         // Ahead of its first letter: the second wire's start is 14, by rests 2.
-        DoorNet y = chain(3, 5, 8, 1);
+        DoorNet y = Nets.chain(3, 5, 8, 1);
         y.stream(0, 2, 1, 12, 50);
         y.plan();
         check.due("start", y.place(0, 21), 14);
@@ -662,7 +641,7 @@ public final class PromiseTest {
 
     private void doorOfCycle48() {
         check.promise("promises 14 and 15, a cycle of 48");
-        DoorNet x = oneWire(0, 1);
+        DoorNet x = Nets.oneWire(0, 1);
         x.cycle(48);
         x.stream(0, 1, 6, 16, 50);
         x.stream(0, 1, 4, 48, 50);
@@ -678,7 +657,7 @@ public final class PromiseTest {
 
     private void waits() {
         check.promise("promise 15, waits");
-        DoorNet x = oneWire(0, 2);
+        DoorNet x = Nets.oneWire(0, 2);
         check.due("waits(0, 11, 8) without streams", x.waits(0, 11, 8), 0);
         x.stream(0, 1, 1, 12, 50);
         x.stream(0, 1, 1, 6, 50);
@@ -696,7 +675,7 @@ public final class PromiseTest {
         for (int[] w : wrong) {
             check.due("a wrong waits", x.waits(w[0], w[1], w[2]), -2);
         }
-        DoorNet y = oneWire(0, 3);
+        DoorNet y = Nets.oneWire(0, 3);
         y.stream(0, 1, 1, 12, 50);
         y.plan();
         check.due("waits for a time beyond the cycle", y.waits(0, 3, 8), -1);
@@ -707,7 +686,7 @@ public final class PromiseTest {
 
     private void worst() {
         check.promise("promise 16, worst");
-        DoorNet x = oneWire(0, 2);
+        DoorNet x = Nets.oneWire(0, 2);
         check.due("worst(0, 8) without streams", x.worst(0, 8), 0);
         x.stream(0, 1, 1, 12, 50);
         x.stream(0, 1, 1, 6, 50);
@@ -715,7 +694,7 @@ public final class PromiseTest {
         check.due("worst(0, 1)", x.worst(0, 1), 5);
         check.due("worst(0, 2)", x.worst(0, 2), 11);
         check.due("worst(0, 3)", x.worst(0, 3), -1);
-        DoorNet y = oneWire(0, 1);
+        DoorNet y = Nets.oneWire(0, 1);
         y.stream(0, 1, 6, 12, 50);
         y.plan();
         check.due("worst(0, 1) is that of tick 0", y.worst(0, 1), 6);
@@ -728,7 +707,7 @@ public final class PromiseTest {
 
     private void clock() {
         check.promise("promise 17, clock");
-        DoorNet x = oneWire(0, 1);
+        DoorNet x = Nets.oneWire(0, 1);
         check.due("clock(0, 0)", x.clock(0, 0), true);
         check.due("clock(0, 1) without drift", x.clock(0, 1), false);
         x.drift(3);
@@ -753,7 +732,7 @@ public final class PromiseTest {
 
     private void send() {
         check.promise("promise 18, send");
-        DoorNet x = oneWire(0, 1);
+        DoorNet x = Nets.oneWire(0, 1);
         int[][] wrong = {{-1, 0, 1, 1}, {1000, 0, 1, 1}, {0, 0, 0, 1}, {0, 0, 2, 1}, {0, -1, 1, 1}, {0, 0, 1, 0},
             {0, 0, 1, 9}, {LOW, 0, 1, 1}, {HIGH, 0, 1, 1}, {0, HIGH, LOW, 1}, {0, 0, 1, HIGH}, {1000, 1, 0, 1}};
         for (int[] l : wrong) {
@@ -771,7 +750,7 @@ public final class PromiseTest {
 
     private void leaves() {
         check.promise("promise 19, leaves");
-        DoorNet x = chain(3, 1, 2, 1);
+        DoorNet x = Nets.chain(3, 1, 2, 1);
         x.drift(1);
         x.stream(0, 2, 3, 6, 50);
         x.plan();
@@ -798,7 +777,7 @@ public final class PromiseTest {
 
     private void room() {
         check.promise("promise 20, room");
-        DoorNet x = chain(5, 1, 2, 1);
+        DoorNet x = Nets.chain(5, 1, 2, 1);
         x.drift(3);
         x.stream(0, 4, 3, 6, 100);
         x.plan();
@@ -820,7 +799,7 @@ public final class PromiseTest {
         }
         x.strike(0);
         check.due("room(0, 0, 1) without a place", x.room(0, 0, 1), -1000);
-        DoorNet y = oneWire(0, 1);
+        DoorNet y = Nets.oneWire(0, 1);
         y.stream(0, 1, 1, 12, 50);
         y.plan();
         check.due("room(0, 0, 1) on a way of one wire", y.room(0, 0, 1), -1000);
@@ -828,7 +807,7 @@ public final class PromiseTest {
 
     private void plain() {
         check.promise("promise 21, plain");
-        DoorNet x = chain(3, 4, 2, 2);
+        DoorNet x = Nets.chain(3, 4, 2, 2);
         x.drift(2);
         check.due("send", x.send(5, 0, 2, 3), 0);
         check.due("plain(0, 0)", x.plain(0, 0), 2);
@@ -846,7 +825,7 @@ public final class PromiseTest {
         for (int l : new int[] {-1, 1, 60, LOW, HIGH}) {
             check.due("plain(" + l + ", 0)", x.plain(l, 0), -1);
         }
-        DoorNet y = oneWire(0, 1);
+        DoorNet y = Nets.oneWire(0, 1);
         y.drift(2);
         y.stream(0, 1, 6, 12, 50);
         y.plan();
@@ -864,7 +843,7 @@ public final class PromiseTest {
 
     private void plainOrder() {
         check.promise("promise 21, who begins first");
-        DoorNet x = chain(3, 0, 0, 1);
+        DoorNet x = Nets.chain(3, 0, 0, 1);
         x.stream(1, 2, 6, 12, 50);
         x.plan();
         x.send(1, 1, 2, 1);
@@ -873,7 +852,7 @@ public final class PromiseTest {
         check.due("and nobody goes by it", x.plain(0, 20), -3);
         check.due("plain(0, 30)", x.plain(0, 30), 1);
         check.due("plain(0, 1)", x.plain(0, 1), -3);
-        DoorNet y = chain(3, 0, 0, 1);
+        DoorNet y = Nets.chain(3, 0, 0, 1);
         y.send(3, 1, 2, 2);
         y.send(0, 0, 2, 3);
         y.send(2, 1, 2, 4);
@@ -923,7 +902,7 @@ public final class PromiseTest {
         check.due("and struck", x.plain(0, 20), 0);
         x.plan();
         check.due("and planned", x.plain(0, 20), 2);
-        DoorNet y = oneWire(0, 1);
+        DoorNet y = Nets.oneWire(0, 1);
         y.send(0, 0, 1, 1);
         check.due("plain(0, 1)", y.plain(0, 1), 1);
         y.stream(0, 1, 2, 2, 50);
@@ -958,7 +937,7 @@ public final class PromiseTest {
 
     private void plainTooLate() {
         check.promise("promise 21, tick 3000");
-        DoorNet x = oneWire(0, 3);
+        DoorNet x = Nets.oneWire(0, 3);
         x.cycle(120);
         x.stream(0, 1, 8, 24, 50);
         check.due("plan()", x.plan(), 1);
@@ -1045,7 +1024,7 @@ public final class PromiseTest {
 
     private void most() {
         check.promise("promise 22, most");
-        DoorNet x = chain(3, 0, 0, 1);
+        DoorNet x = Nets.chain(3, 0, 0, 1);
         check.due("most(0) without letters", x.most(0), 0);
         for (int w : new int[] {-1, 2, LOW, HIGH}) {
             check.due("most(" + w + ")", x.most(w), -1);
@@ -1068,7 +1047,7 @@ public final class PromiseTest {
 
     private void count() {
         check.promise("promise 23, count");
-        DoorNet x = chain(3, 0, 0, 1);
+        DoorNet x = Nets.chain(3, 0, 0, 1);
         x.cycle(24);
         x.drift(3);
         x.stream(0, 1, 8, 12, 50);
@@ -1095,7 +1074,7 @@ public final class PromiseTest {
     private void anyNumbers() {
         check.promise("any numbers");
         int[] odd = {LOW, LOW + 1, LOW + 20, -1001, -2, -1, 0, 1, 2, 3, 4, 9, 12, 13, 24, 31, 32, 33, 63, 64, 999, HIGH};
-        DoorNet[] nets = {new DoorNet(), oneWire(1, 1), chain(6, 5, 9, 3)};
+        DoorNet[] nets = {new DoorNet(), Nets.oneWire(1, 1), Nets.chain(6, 5, 9, 3)};
         nets[2].drift(3);
         nets[2].stream(0, 4, 1, 12, 200);
         nets[2].plan();
