@@ -1074,19 +1074,24 @@ public final class PromiseTest {
     private void anyNumbers() {
         check.promise("any numbers");
         int[] odd = {LOW, LOW + 1, LOW + 20, -1001, -2, -1, 0, 1, 2, 3, 4, 9, 12, 13, 24, 31, 32, 33, 63, 64, 999, HIGH};
-        DoorNet[] nets = {new DoorNet(), Nets.oneWire(1, 1), Nets.chain(6, 5, 9, 3)};
-        nets[2].drift(3);
-        nets[2].stream(0, 4, 1, 12, 200);
-        nets[2].plan();
-        nets[2].send(5, 0, 4, 2);
-        for (DoorNet x : nets) {
-            for (int a : odd) {
-                for (int b : odd) {
+        for (int a : odd) {
+            for (int b : odd) {
+                DoorNet[] nets = {new DoorNet(), Nets.oneWire(1, 1), usedChain()};
+                for (DoorNet x : nets) {
                     callAll(x, a, b);
+                    check.due("six boxes at most", x.count(0) <= 6, true);
                 }
             }
         }
-        check.due("count(0) never passes 6", nets[0].count(0), 6);
+    }
+
+    private static DoorNet usedChain() {
+        DoorNet x = Nets.chain(6, 5, 9, 3);
+        x.drift(3);
+        x.stream(0, 4, 1, 12, 200);
+        x.plan();
+        x.send(5, 0, 4, 2);
+        return x;
     }
 
     private static void callAll(DoorNet x, int a, int b) {

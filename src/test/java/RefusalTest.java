@@ -249,6 +249,12 @@ public final class RefusalTest {
             int told = d;
             refused("drift(" + d + ")", RefusalTest::used, x -> bit(x.drift(told)), 0);
         }
+        Build oneAlone = () -> {
+            DoorNet x = laid();
+            x.stream(0, 1, 1, 12, 50);
+            return x;
+        };
+        refused("drift(2) beside one without a place", oneAlone, x -> bit(x.drift(2)), 0);
     }
 
     private void streamEightAreThere() {
