@@ -14,6 +14,7 @@ public final class StreamTermsTest {
         test.ticks();
         test.starts();
         test.meetByRests();
+        test.longLettersOverTheEnd();
         test.meetFarBehindTheCycle();
         test.meetOnAnyWire();
         test.meetByItself();
@@ -198,6 +199,40 @@ public final class StreamTermsTest {
         check.due("plan()", y.plan(), 1);
         check.due("eight and two behind each other", y.place(2, 1), 9);
         check.due("eight", y.place(1, 1), 1);
+    }
+
+    private void longLettersOverTheEnd() {
+        check.promise("'by rests by the CYCLE': a letter of more than half a cycle over its end");
+        // Stream 0 has 1 .. 4 of the second wire; stream 1 has 5 .. 12 there, so 0 too.
+        DoorNet x = Nets.chain(3, 0, 9, 1);
+        x.stream(0, 2, 4, 12, 50);
+        x.stream(1, 2, 8, 12, 50);
+        fullBehind(x, 13, 5);
+        // Stream 0 has 1 .. 8 of the second wire; stream 1 has 9 .. 24 there, so 0 too.
+        DoorNet y = Nets.boxes(3, 4);
+        y.wire(0, 1, 9, 3);
+        y.wire(1, 2, 0, 2);
+        y.cycle(24);
+        y.stream(0, 2, 4, 24, 50);
+        y.stream(1, 2, 8, 24, 50);
+        fullBehind(y, 25, 9);
+    }
+
+    /** Streams 0 and 1 fill wire 1, the second of them over the cycle's end. */
+    private void fullBehind(DoorNet x, int start, int tick) {
+        check.due("plan()", x.plan(), 1);
+        check.due("start", x.place(0, 21), start);
+        check.due("tick", x.place(1, 1), tick);
+        check.due("tries()", x.tries(), 1 + tick + 1);
+        check.due("door(1, 0)", x.door(1, 0), 1);
+        check.due("waits(1, 0, 1)", x.waits(1, 0, 1), -1);
+        x.send(0, 1, 2, 1);
+        check.due("plain(0, 20)", x.plain(0, 20), -3);
+        x.stream(1, 2, 1, 12, 50);
+        check.due("add() of one more", x.add(), 0);
+        x.strike(1);
+        check.due("waits(1, 0, 1) without it", x.waits(1, 0, 1), x.count(2) == 12 ? 0 : 9);
+        check.due("waits(1, tick, 8) without it", x.waits(1, tick, 8), 0);
     }
 
     private void meetFarBehindTheCycle() {
