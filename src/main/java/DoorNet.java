@@ -440,12 +440,8 @@ public final class DoorNet {
         }
 
         boolean hasDoor(Stream s, int w, int t) {
-            for (int k = 0; k < MOST_HOPS; k++) {
-                if (Ways.wireAt(s.wayNow(), k) == w) {
-                    return Math.floorMod(t - startOf(s, k), s.period) < timeOn(w, s.size);
-                }
-            }
-            return false;
+            int k = Ways.hopOn(s.wayNow(), w);
+            return k != NONE && Math.floorMod(t - startOf(s, k), s.period) < timeOn(w, s.size);
         }
     }
 
@@ -490,6 +486,16 @@ public final class DoorNet {
 
         static boolean hasHop(int way, int k) {
             return wireAt(way, k) != NONE;
+        }
+
+        /** Which of a WAY's WIRES a WIRE is; NONE if it is none of them. */
+        static int hopOn(int way, int w) {
+            for (int k = 0; k < MOST_HOPS; k++) {
+                if (w != NONE && wireAt(way, k) == w) {
+                    return k;
+                }
+            }
+            return NONE;
         }
 
         private static int shiftOf(int k) {
@@ -937,13 +943,20 @@ public final class DoorNet {
             return hop < MOST_HOPS ? waited[hop] : END;
         }
 
+        /** Whether it begins ahead of one of a lesser number that goes by the same WIRE next. */
+        boolean goesAheadOf(Letter other) {
+            return other == null || readyAt() < other.readyAt();
+        }
+
+        /** The TICK from which on it waits for a WIRE; END if it does not go by it. */
+        int readyFor(int w) {
+            int k = Ways.hopOn(way, w);
+            return k == NONE ? END : waited[k];
+        }
+
         boolean waitsFor(int w, int t) {
-            for (int k = 0; k < MOST_HOPS; k++) {
-                if (Ways.wireAt(way, k) == w) {
-                    return waited[k] <= t && t < begun[k];
-                }
-            }
-            return false;
+            int k = Ways.hopOn(way, w);
+            return k != NONE && waited[k] <= t && t < begun[k];
         }
     }
 
@@ -999,8 +1012,10 @@ public final class DoorNet {
 
         private void setOutAll() {
             for (int l = 0; l < told; l++) {
-                Letter it = letters[l];
-                it.setOut(Math.max(ways.nextBehind(it.from, it.to, it.size, NONE), 0));
+                Letter it = letter(l);
+                if (it != null) {
+                    it.setOut(Math.max(ways.nextBehind(it.from, it.to, it.size, NONE), 0));
+                }
             }
             for (int w = 0; w < net.wires; w++) {
                 freeFrom[w] = 0;
@@ -1011,8 +1026,8 @@ public final class DoorNet {
         private void findHead(int w) {
             Letter head = null;
             for (int l = 0; l < told; l++) {
-                Letter it = letters[l];
-                if (it.nextWire() == w && (head == null || it.readyAt() < head.readyAt())) {
+                Letter it = letter(l);
+                if (it != null && it.nextWire() == w && it.goesAheadOf(head)) {
                     head = it;
                 }
             }
@@ -1062,10 +1077,9 @@ public final class DoorNet {
         int longestRow(int w) {
             int longest = 0;
             for (int l = 0; l < told; l++) {
-                for (int k = 0; k < MOST_HOPS; k++) {
-                    if (Ways.wireAt(letters[l].way, k) == w) {
-                        longest = Math.max(longest, waitingAt(w, letters[l].waited[k]));
-                    }
+                Letter it = letter(l);
+                if (it != null) {
+                    longest = Math.max(longest, waitingAt(w, it.readyFor(w)));
                 }
             }
             return longest;
@@ -1074,7 +1088,8 @@ public final class DoorNet {
         private int waitingAt(int w, int t) {
             int waiting = 0;
             for (int l = 0; l < told; l++) {
-                if (t < END && letters[l].waitsFor(w, t)) {
+                Letter it = letter(l);
+                if (it != null && t < END && it.waitsFor(w, t)) {
                     waiting++;
                 }
             }
@@ -1084,7 +1099,8 @@ public final class DoorNet {
         int ended() {
             int many = 0;
             for (int l = 0; l < told; l++) {
-                if (letters[l].end < END) {
+                Letter it = letter(l);
+                if (it != null && it.end < END) {
                     many++;
                 }
             }
